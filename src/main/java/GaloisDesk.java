@@ -39,10 +39,10 @@ public final class GaloisDesk {
     private final PartList told = new PartList();
     private final int[] patternDegrees = new int[TOP];
     private int patternCount = 0;
-    private final Residues residues = new Residues();
-    private final Splitter splitter = new Splitter(residues);
-    private final Factoring factoring = new Factoring(residues, splitter);
+    private final Factoring factoring = new Factoring();
+    private final Splitter splitter = factoring.splitter;
 
+    /** The fields make all rows, so that no call has to make an object. */
     public GaloisDesk() {
     }
 
@@ -138,8 +138,7 @@ public final class GaloisDesk {
         if (slots[slot].top < 1) {
             return ZERO;
         }
-        residues.useModulus(prime);
-        if (!splitter.load(slots[slot])) {
+        if (!splitter.load(slots[slot], prime)) {
             return NONE;
         }
         splitter.groupByDegrees();
@@ -584,7 +583,7 @@ public final class GaloisDesk {
         /** Each shift parts any two factors with a chance of about one half, so a few dozen would do. */
         private static final int TRIES = 100000;
 
-        private final Residues residues;
+        final Residues residues = new Residues();
         private final Row image = new Row();
         private final Row rest = new Row();
         private final Row line = new Row();
@@ -597,12 +596,9 @@ public final class GaloisDesk {
         final Row[] pieces = freshRows(TOP);
         int pieceCount = 0;
 
-        Splitter(Residues residues) {
-            this.residues = residues;
-        }
-
         /** False if the degree sinks modulo the prime, or a factor is there twice. */
-        boolean load(Row whole) {
+        boolean load(Row whole, long prime) {
+            residues.useModulus(prime);
             residues.reduce(image, whole);
             if (image.top != whole.top || image.top < 1) {
                 return false;
@@ -693,8 +689,8 @@ public final class GaloisDesk {
 
     /** Takes a polynomial apart with whole coefficients. */
     private static final class Factoring {
-        private final Residues residues;
-        private final Splitter splitter;
+        final Splitter splitter = new Splitter();
+        private final Residues residues = splitter.residues;
         private final Row body = new Row();
         private final Row rest = new Row();
         private final Row slope = new Row();
@@ -703,11 +699,6 @@ public final class GaloisDesk {
         private final Row quotient = new Row();
         private final Row scratch = new Row();
         final PartList found = new PartList();
-
-        Factoring(Residues residues, Splitter splitter) {
-            this.residues = residues;
-            this.splitter = splitter;
-        }
 
         /** The whole is a slot's polynomial, and not 0. */
         void takeApart(Row whole) {
@@ -757,8 +748,7 @@ public final class GaloisDesk {
 
         private void chooseModulus() {
             for (long prime : BIG_PRIMES) {
-                residues.useModulus(prime);
-                if (splitter.load(rest)) {
+                if (splitter.load(rest, prime)) {
                     return;
                 }
             }
@@ -818,6 +808,7 @@ public final class GaloisDesk {
         /** Above 2 * 300 * root of 5, which no root of the resolvent of a quartic passes. */
         private static final long ROOT_LIMIT = 1342;
 
+        /** One root or two have a single group each, whose number is the degree. */
         static int of(Row f) {
             if (f.top == 4) {
                 return ofQuartic(f);

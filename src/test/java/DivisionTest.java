@@ -5,6 +5,7 @@ public final class DivisionTest {
         noQuotients();
         fullQuotient();
         commonOnes();
+        commonModuloPrimesOnly();
         commonWithZero();
         fullCommon();
         wrongNumbers();
@@ -76,6 +77,14 @@ public final class DivisionTest {
         Check.load(desk, 1, 1, 3, 2, -2, -3, -1);
         Check.same("common(2, 0, 1)", desk.common(2, 0, 1), 5);
         Check.slot("common with repeated factors", desk, 2, -1, -3, -2, 2, 3, 1);
+    }
+
+    /** They share a root modulo 33554467 and modulo 33554473, where the class looks first, but no factor. */
+    private static void commonModuloPrimesOnly() {
+        GaloisDesk desk = Check.deskWith(-14, -9, -113, 48, 23, 20, 10);
+        Check.load(desk, 1, 3, -102, 5, -80, -90, -1, -29);
+        Check.same("common(2, 0, 1)", desk.common(2, 0, 1), 0);
+        Check.slot("common modulo primes only", desk, 2, 1);
     }
 
     private static void commonWithZero() {

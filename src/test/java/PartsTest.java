@@ -7,6 +7,7 @@ public final class PartsTest {
         numbers();
         largeCoefficients();
         hiddenFactors();
+        factorsThatMeet();
         whatWasToldStays();
         outOfRange();
         wrongNumbers();
@@ -103,6 +104,21 @@ public final class PartsTest {
         Check.load(desk, 0, 108, 0, 0, 0, 0, 0, 1);
         expectCount("x^6 + 108", desk, 1, 1);
         Check.part("x^6 + 108", desk, 0, 1, 108, 0, 0, 0, 0, 0, 1);
+    }
+
+    /** Factors, or roots of one, that are the same modulo 33554467 or 33554473, where the class looks for them. */
+    private static void factorsThatMeet() {
+        GaloisDesk desk = Check.deskWith(-140, -53, -117, 126, -206, -190, 10);
+        expectCount("meeting modulo 33554467", desk, 2, 1);
+        Check.part("meeting modulo 33554467", desk, 0, 1, -20, 1);
+        Check.part("meeting modulo 33554467", desk, 1, 1, 7, 3, 6, -6, 10, 10);
+        Check.load(desk, 0, 140, -87, -116, 126, -206, -190, 10);
+        expectCount("meeting modulo 33554473", desk, 2, 1);
+        Check.part("meeting modulo 33554473", desk, 0, 1, -20, 1);
+        Check.part("meeting modulo 33554473", desk, 1, 1, -7, 4, 6, -6, 10, 10);
+        Check.load(desk, 0, 5, 57, -29, 66, -35, -47, -31);
+        expectCount("a double root modulo 33554467", desk, 1, -1);
+        Check.part("a double root modulo 33554467", desk, 0, 1, -5, -57, 29, -66, 35, 47, 31);
     }
 
     private static void whatWasToldStays() {
