@@ -754,15 +754,12 @@ public final class GaloisDesk {
             }
         }
 
-        /** Fewest pieces first, so that what is found is no product of others. */
+        /** Fewer ones of the same pieces have a lower mask and come first, so what is found is no product of others. */
         private void recombine() {
             int used = 0;
-            int count = splitter.pieceCount;
-            for (int size = 1; size <= count; size++) {
-                for (int mask = 1; mask < 1 << count; mask++) {
-                    if (Integer.bitCount(mask) == size && (mask & used) == 0 && takeOut(mask)) {
-                        used |= mask;
-                    }
+            for (int mask = 1; mask < 1 << splitter.pieceCount; mask++) {
+                if ((mask & used) == 0 && takeOut(mask)) {
+                    used |= mask;
                 }
             }
         }

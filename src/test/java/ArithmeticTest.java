@@ -31,6 +31,10 @@ public final class ArithmeticTest {
         Check.slot("add up to the bound", desk, 3, 300, 0, -300);
         Check.same("add(2, 0, 1, 10, 1)", desk.add(2, 0, 1, 10, 1), GaloisDesk.FULL);
         Check.same("add(2, 0, 1, -10, -1)", desk.add(2, 0, 1, -10, -1), GaloisDesk.FULL);
+        Check.load(desk, 4, 0, 0, -300);
+        Check.load(desk, 5, 0, 0, 1);
+        Check.same("add(2, 4, 5, 1, -1)", desk.add(2, 4, 5, 1, -1), GaloisDesk.FULL);
+        Check.same("add(2, 4, 5, -1, 1)", desk.add(2, 4, 5, -1, 1), GaloisDesk.FULL);
         Check.slot("FULL", desk, 2, 7, 7);
     }
 

@@ -29,8 +29,8 @@ public final class FaceTest {
     }
 
     private static void members() {
-        Check.holds("the class is public and final",
-                Modifier.isPublic(GaloisDesk.class.getModifiers()) && Modifier.isFinal(GaloisDesk.class.getModifiers()));
+        int modifiers = GaloisDesk.class.getModifiers();
+        Check.holds("the class is public and final", Modifier.isPublic(modifiers) && Modifier.isFinal(modifiers));
         Set<String> seen = new TreeSet<>();
         for (Method method : GaloisDesk.class.getDeclaredMethods()) {
             if (!isHidden(method)) {

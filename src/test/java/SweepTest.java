@@ -178,7 +178,8 @@ public final class SweepTest {
             List<Integer> due = patternByTrying(row, prime);
             Check.same(what, desk.pattern(0, prime), due == null ? GaloisDesk.NONE : due.size());
             for (int i = 0; i < 7; i++) {
-                Check.same(what + ": degree(" + i + ")", desk.degree(i), due == null || i >= due.size() ? 0 : due.get(i));
+                int degree = due == null || i >= due.size() ? 0 : due.get(i);
+                Check.same(what + ": degree(" + i + ")", desk.degree(i), degree);
             }
         }
     }
