@@ -580,8 +580,12 @@ public final class GaloisDesk {
 
     /** Takes a polynomial apart modulo a prime. */
     private static final class Splitter {
-        /** Each shift parts any two factors with a chance of about one half, so a few dozen would do. */
-        private static final int TRIES = 100000;
+        /**
+         * About half of all shifts part two factors, so a few dozen would do. That one of so many does is certain: by
+         * Weil's bound, shifts that do and that do not differ by less than 6 * root of p * (1 + ln p) in number, which
+         * is below 640000 for the big primes.
+         */
+        private static final int TRIES = 1000000;
 
         final Residues residues = new Residues();
         private final Row image = new Row();

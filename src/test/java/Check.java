@@ -5,8 +5,14 @@ final class Check {
     }
 
     private static int wrong = 0;
+    private static String where = "";
 
     private Check() {
+    }
+
+    /** What follows is about a sentence of the document; each wrong answer is reported with it. */
+    static void about(String heading, String sentence) {
+        where = heading + ", \"" + sentence + "\": ";
     }
 
     static void same(String what, long got, long due) {
@@ -22,12 +28,15 @@ final class Check {
     }
 
     static void refused(String what, Call call) {
+        String thrown = "nothing";
         try {
             call.run();
-        } catch (IllegalArgumentException e) {
-            return;
+        } catch (RuntimeException e) {
+            thrown = e.getClass().getName();
         }
-        report(what + " did not throw IllegalArgumentException");
+        if (!thrown.equals("java.lang.IllegalArgumentException")) {
+            report(what + " threw " + thrown + ", due is IllegalArgumentException");
+        }
     }
 
     /** Tells a slot all its coefficients, of x to the 0 first. */
@@ -72,7 +81,7 @@ final class Check {
 
     private static void report(String text) {
         wrong++;
-        System.out.println(text);
+        System.out.println(where + text);
     }
 
     static void end() {

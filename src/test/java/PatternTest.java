@@ -75,9 +75,9 @@ public final class PatternTest {
     }
 
     private static void primes() {
-        GaloisDesk desk = Check.deskWith(1, 1);
         int count = 0;
         for (int n = -10; n <= 1100; n++) {
+            GaloisDesk desk = Check.deskWith(1, 1);
             int number = n;
             if (isPrime(n) && n <= 997) {
                 count++;
@@ -87,6 +87,7 @@ public final class PatternTest {
             }
         }
         Check.same("primes up to 997", count, 168);
+        GaloisDesk desk = Check.deskWith(1, 1);
         Check.refused("the least number", () -> desk.pattern(0, Integer.MIN_VALUE));
         Check.refused("the greatest number", () -> desk.pattern(0, Integer.MAX_VALUE));
     }

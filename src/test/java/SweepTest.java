@@ -4,6 +4,7 @@ import java.util.List;
 /**
  * Many polynomials, made by a fixed rule, against plain searches that share no way of working with the class: factors
  * by trying all, patterns by trying all divisors modulo the prime, groups by the patterns of all primes up to 997.
+ * Each polynomial has an object of its own, since one is used for 512 calls only.
  */
 public final class SweepTest {
     private static long seed = 12345;
@@ -79,8 +80,8 @@ public final class SweepTest {
     }
 
     private static void partsMultiplyBack() {
-        GaloisDesk desk = new GaloisDesk();
         for (int n = 0; n < 1500; n++) {
+            GaloisDesk desk = new GaloisDesk();
             int[] row = n % 3 == 0 ? nextRow(6, 300) : nextRow(n % 7, n % 3 * 2);
             String what = "parts of " + java.util.Arrays.toString(row);
             Check.load(desk, 0, row);
@@ -103,8 +104,8 @@ public final class SweepTest {
     }
 
     private static void partsAgainstAllDivisors() {
-        GaloisDesk desk = new GaloisDesk();
         for (int n = 0; n < 250; n++) {
+            GaloisDesk desk = new GaloisDesk();
             int[] row = nextRow(1 + n % 6, 2);
             Check.load(desk, 0, row);
             int count = desk.parts(0);
@@ -165,9 +166,9 @@ public final class SweepTest {
     }
 
     private static void patternsAgainstAllDivisors() {
-        GaloisDesk desk = new GaloisDesk();
         int[] primes = {2, 3, 5, 7};
         for (int n = 0; n < 1200; n++) {
+            GaloisDesk desk = new GaloisDesk();
             int[] row = nextRow(1 + n % 6, 300);
             int prime = primes[n / 6 % 4];
             if (topOf(row) < 1) {
@@ -241,8 +242,8 @@ public final class SweepTest {
     }
 
     private static void groupsAgainstPatterns() {
-        GaloisDesk desk = new GaloisDesk();
         for (int n = 0; n < 300; n++) {
+            GaloisDesk desk = new GaloisDesk();
             int[] row = nextQuartic(n);
             Check.load(desk, 0, row);
             int count = desk.parts(0);
@@ -291,8 +292,8 @@ public final class SweepTest {
 
     /** What is in common is the product of the common parts, each as often as in the one that has it less often. */
     private static void commonAgainstParts() {
-        GaloisDesk desk = new GaloisDesk();
         for (int n = 0; n < 800; n++) {
+            GaloisDesk desk = new GaloisDesk();
             Check.load(desk, 2, nextRow(1 + n % 3, 3));
             Check.load(desk, 3, nextRow(n % 4, 3));
             Check.load(desk, 4, nextRow(n / 4 % 4, 3));
@@ -337,8 +338,8 @@ public final class SweepTest {
     }
 
     private static void productsDivideBack() {
-        GaloisDesk desk = new GaloisDesk();
         for (int n = 0; n < 800; n++) {
+            GaloisDesk desk = new GaloisDesk();
             int[] row = nextRow(n % 4, 8);
             Check.load(desk, 0, row);
             Check.load(desk, 1, nextRow(n / 4 % 4, 5));
