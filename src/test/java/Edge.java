@@ -41,7 +41,7 @@ final class Edge {
         GaloisDesk desk = furnished();
         long[] before = stateOf(desk);
         Check.refused(call, () -> ask.of(desk));
-        sameState(call + " threw", desk, before);
+        sameState("after the refused " + call, desk, before);
     }
 
     /** The call answers what is due, and changes nothing. */
