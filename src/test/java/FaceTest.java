@@ -3,6 +3,7 @@ import java.lang.reflect.Field;
 import java.lang.reflect.Member;
 import java.lang.reflect.Method;
 import java.lang.reflect.Modifier;
+import java.util.List;
 import java.util.Set;
 import java.util.TreeSet;
 
@@ -13,6 +14,7 @@ public final class FaceTest {
             "multiply(int,int,int):int", "derive(int,int):int", "divide(int,int,int):int",
             "common(int,int,int):int", "parts(int):int", "part(int,int):long", "times(int):int",
             "content():int", "pattern(int,int):int", "degree(int):int", "galois(int):int");
+    private static final Set<String> NEVER_THROW = Set.of("part", "times", "content", "degree");
 
     public static void main(String[] args) {
         constants();
@@ -37,6 +39,9 @@ public final class FaceTest {
                 seen.add(signature(method));
                 Check.holds(method.getName() + " is public and no static one",
                         Modifier.isPublic(method.getModifiers()) && !Modifier.isStatic(method.getModifiers()));
+                Check.holds(method.getName() + " declares what it throws as the document does",
+                        List.of(method.getExceptionTypes()).equals(NEVER_THROW.contains(method.getName())
+                                ? List.of() : List.of(IllegalArgumentException.class)));
             }
         }
         Check.holds("the methods are those of the document, not " + seen, seen.equals(FACE));
@@ -44,6 +49,8 @@ public final class FaceTest {
         for (Field field : GaloisDesk.class.getDeclaredFields()) {
             if (!isHidden(field)) {
                 constants.add(field.getName());
+                Check.holds(field.getName() + " is a constant number", field.getType() == int.class
+                        && Modifier.toString(field.getModifiers()).equals("public static final"));
             }
         }
         Check.holds("the constants are those of the document, not " + constants,
